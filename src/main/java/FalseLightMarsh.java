@@ -342,11 +342,11 @@ public final class FalseLightMarsh {
         requireTraveller(traveller);
         requireWalking(traveller);
         draft.copyFrom(world);
-        int ticks = simulation.runUntilDone(draft, traveller, MAX_FUTURE);
-        if (ticks == NONE) {
+        simulation.run(draft, MAX_FUTURE);
+        if (draft.travellers.state[traveller] == WALKING) {
             throw new NoSuchElementException("still walking");
         }
-        return ticks;
+        return draft.travellers.doneAt[traveller] - world.time;
     }
 
     public boolean willArrive(int traveller) throws IndexOutOfBoundsException {
@@ -357,11 +357,17 @@ public final class FalseLightMarsh {
     }
 
     public int arrivedAfter(int ticks) throws IllegalArgumentException {
-        return countAfter(ticks, ARRIVED);
+        requireFuture(ticks);
+        draft.copyFrom(world);
+        simulation.run(draft, ticks);
+        return draft.travellers.countIn(ARRIVED);
     }
 
     public int sunkAfter(int ticks) throws IllegalArgumentException {
-        return countAfter(ticks, SUNK);
+        requireFuture(ticks);
+        draft.copyFrom(world);
+        simulation.run(draft, ticks);
+        return draft.travellers.countIn(SUNK);
     }
 
     public int bestClearness() {
@@ -582,13 +588,10 @@ public final class FalseLightMarsh {
         return steps;
     }
 
-    private int countAfter(int ticks, int state) throws IllegalArgumentException {
+    private static void requireFuture(int ticks) throws IllegalArgumentException {
         if (ticks < 0 || ticks > MAX_FUTURE) {
             throw new IllegalArgumentException("ticks is out of range");
         }
-        draft.copyFrom(world);
-        simulation.run(draft, ticks);
-        return draft.travellers.countIn(state);
     }
 
     // ---- small helps for all classes
@@ -604,10 +607,6 @@ public final class FalseLightMarsh {
 
     private static int rowOf(int cell) {
         return cell / MAX_SIDE;
-    }
-
-    private static int distanceOf(int cell, int other) {
-        return Math.abs(columnOf(cell) - columnOf(other)) + Math.abs(rowOf(cell) - rowOf(other));
     }
 
     private static boolean holds(int set, int light) {
@@ -660,9 +659,10 @@ public final class FalseLightMarsh {
 
         /** The adjacent cell in a direction, NONE beyond the edge. */
         int neighbour(int cell, int direction) {
-            int x = columnOf(cell) + STEP_X[direction];
-            int y = rowOf(cell) + STEP_Y[direction];
-            return contains(x, y) ? cellAt(x, y) : NONE;
+            int x = cell % MAX_SIDE + STEP_X[direction];
+            int y = cell / MAX_SIDE + STEP_Y[direction];
+            boolean inside = x >= 0 && x < columns && y >= 0 && y < rows;
+            return inside ? y * MAX_SIDE + x : NONE;
         }
 
         /** Wears the plank that is left, if it is one; returns whether it broke. */
@@ -778,6 +778,8 @@ public final class FalseLightMarsh {
         final int[] goal;
         final int[] passed;
         final int[] distrusted;
+        // The time at which a traveller arrived or sank; free while the traveller walks.
+        final int[] doneAt;
 
         Travellers() {
             cell = new int[MAX_TRAVELLERS];
@@ -786,6 +788,7 @@ public final class FalseLightMarsh {
             goal = new int[MAX_TRAVELLERS];
             passed = new int[MAX_TRAVELLERS];
             distrusted = new int[MAX_TRAVELLERS];
+            doneAt = new int[MAX_TRAVELLERS];
         }
 
         void copyFrom(Travellers other) {
@@ -796,6 +799,7 @@ public final class FalseLightMarsh {
             copyNumbers(other.goal, goal);
             copyNumbers(other.passed, passed);
             copyNumbers(other.distrusted, distrusted);
+            copyNumbers(other.doneAt, doneAt);
         }
 
         /** Adds a walking traveller where there is room; returns its number. */
@@ -814,9 +818,10 @@ public final class FalseLightMarsh {
             return traveller;
         }
 
-        void finish(int traveller, int end) {
+        void finish(int traveller, int end, int time) {
             state[traveller] = end;
             goal[traveller] = NONE;
+            doneAt[traveller] = time;
         }
 
         boolean shuns(int traveller, int light) {
@@ -900,7 +905,9 @@ public final class FalseLightMarsh {
         }
 
         int distanceTo(int traveller, int light) {
-            return distanceOf(travellers.cell[traveller], lights.cell[light]);
+            int from = travellers.cell[traveller];
+            int to = lights.cell[light];
+            return Math.abs(from % MAX_SIDE - to % MAX_SIDE) + Math.abs(from / MAX_SIDE - to / MAX_SIDE);
         }
 
         int nearestAcceptable(int traveller) {
@@ -1022,22 +1029,20 @@ public final class FalseLightMarsh {
         }
 
         void run(World world, int ticks) {
+            int end = world.time + ticks;
+            int idle = 0;
             forgetWays();
-            for (int n = 0; n < ticks; n++) {
-                passHour(world);
-            }
-        }
-
-        /** Returns after how many ticks the traveller no longer walks, NONE if it still does at the limit. */
-        int runUntilDone(World world, int traveller, int limit) {
-            forgetWays();
-            for (int n = 1; n <= limit; n++) {
-                passHour(world);
-                if (world.travellers.state[traveller] != WALKING) {
-                    return n;
+            // When nobody has done anything for a whole day, nobody ever will: only the hour counts now.
+            for (int n = 0; n < ticks && idle < HOURS; n++) {
+                world.time++;
+                idle++;
+                for (int traveller = 0; traveller < world.travellers.count; traveller++) {
+                    if (world.travellers.state[traveller] == WALKING && act(world, traveller)) {
+                        idle = 0;
+                    }
                 }
             }
-            return NONE;
+            world.time = end;
         }
 
         private void forgetWays() {
@@ -1046,30 +1051,23 @@ public final class FalseLightMarsh {
             }
         }
 
-        private void passHour(World world) {
-            world.time++;
-            for (int traveller = 0; traveller < world.travellers.count; traveller++) {
-                if (world.travellers.state[traveller] == WALKING) {
-                    act(world, traveller);
-                }
-            }
-        }
-
-        private void act(World world, int traveller) {
+        /** Returns whether the traveller had or took a target, without which nothing is done. */
+        private boolean act(World world, int traveller) {
             Travellers all = world.travellers;
             if (all.goal[traveller] == NONE) {
                 all.goal[traveller] = world.nearestAcceptable(traveller);
             }
             int light = all.goal[traveller];
             if (!world.lights.contains(light)) {
-                return;
+                return false;
             }
-            if (all.cell[traveller] != world.lights.cell[light] && !move(world, traveller, light)) {
+            if (all.cell[traveller] == world.lights.cell[light] || move(world, traveller, light)) {
+                settle(world, traveller, light);
+            } else {
                 all.passed[traveller] |= 1 << light;
                 all.goal[traveller] = NONE;
-                return;
             }
-            settle(world, traveller, light);
+            return true;
         }
 
         /** Moves the traveller one step towards the light; returns whether there is a path. */
@@ -1095,12 +1093,12 @@ public final class FalseLightMarsh {
             Travellers all = world.travellers;
             int here = all.cell[traveller];
             if (world.ground.cells[here] == HUT) {
-                all.finish(traveller, ARRIVED);
+                all.finish(traveller, ARRIVED, world.time);
             } else if (here == world.lights.cell[light]) {
                 if (holds(world.lights.trueSet, light)) {
                     passLight(world, traveller, light);
                 } else {
-                    all.finish(traveller, SUNK);
+                    all.finish(traveller, SUNK, world.time);
                     warnOthers(world, light);
                 }
             }
@@ -1169,6 +1167,7 @@ public final class FalseLightMarsh {
         private static final int NUMBER = 2;
         private static final int SEMICOLON = 3;
         private static final int INVALID = 4;
+        private static final int BLANK = 5;
         private static final int MAX_DIGITS = 3;
 
         int length;
@@ -1290,18 +1289,13 @@ public final class FalseLightMarsh {
                 return false;
             }
             int light = world.lights.put(cell, brightness, isTrue);
-            return readSuccessor(world.lights, light) && takeSemicolon();
-        }
-
-        private boolean readSuccessor(Lights lights, int light) {
-            if (!takeWord("next")) {
-                return true;
+            if (light != NONE && takeWord("next")) {
+                if (!takeNumber(0, light - 1)) {
+                    return false;
+                }
+                world.lights.next[light] = taken;
             }
-            if (!lights.contains(light) || !takeNumber(0, light - 1)) {
-                return false;
-            }
-            lights.next[light] = taken;
-            return true;
+            return takeSemicolon();
         }
 
         private boolean readTravellers(World world) {
@@ -1389,51 +1383,54 @@ public final class FalseLightMarsh {
         /** Goes to the token after the one at hand. */
         private void scan() {
             start = end;
-            while (start < length && isBlank(text[start])) {
+            while (start < length && kindOf(text[start]) == BLANK) {
                 start++;
             }
             end = start;
             if (start >= length) {
                 kind = END;
-            } else if (isLetter(text[start])) {
-                scanWord();
-            } else if (isDigit(text[start])) {
-                scanNumber();
-            } else {
-                kind = text[start] == ';' ? SEMICOLON : INVALID;
-                end = start + 1;
+                return;
             }
-        }
-
-        private void scanWord() {
-            while (end < length && isLetter(text[end])) {
-                end++;
-            }
-            kind = WORD;
-        }
-
-        private void scanNumber() {
-            value = 0;
-            while (end < length && isDigit(text[end])) {
-                // Further digits make the number invalid, and its value would no longer fit an int.
-                if (end - start < MAX_DIGITS) {
-                    value = value * 10 + text[end] - '0';
+            kind = kindOf(text[start]);
+            end++;
+            if (kind == WORD || kind == NUMBER) {
+                while (end < length && kindOf(text[end]) == kind) {
+                    end++;
                 }
-                end++;
             }
-            kind = end - start <= MAX_DIGITS ? NUMBER : INVALID;
+            if (kind == NUMBER) {
+                readNumber();
+            }
         }
 
-        private static boolean isBlank(byte one) {
-            return one == ' ' || one == '\n';
+        private void readNumber() {
+            if (end - start > MAX_DIGITS) {
+                kind = INVALID;
+                return;
+            }
+            value = 0;
+            for (int n = start; n < end; n++) {
+                value = value * 10 + text[n] - '0';
+            }
         }
 
-        private static boolean isLetter(byte one) {
-            return one >= 'a' && one <= 'z';
-        }
-
-        private static boolean isDigit(byte one) {
-            return one >= '0' && one <= '9';
+        /** What a token that begins with this byte is, BLANK for what stands between tokens. */
+        private static int kindOf(byte one) {
+            if (one >= 'a' && one <= 'z') {
+                return WORD;
+            }
+            if (one >= '0' && one <= '9') {
+                return NUMBER;
+            }
+            switch (one) {
+                case ';':
+                    return SEMICOLON;
+                case ' ':
+                case '\n':
+                    return BLANK;
+                default:
+                    return INVALID;
+            }
         }
     }
 }

@@ -21,6 +21,8 @@ final class InputTest {
         refusesWrongLights();
         refusesWrongTravellers();
         refusesStatementsOutOfOrder();
+        refusesTextsThatEndTooEarly();
+        keepsNothingOfEarlierTextsAndQuestions();
         check.end();
     }
 
@@ -171,6 +173,11 @@ final class InputTest {
         check.same("T5 spaces only", Marsh.errorOf("   "), 3);
         check.same("T5 another word", Marsh.errorOf(" marshes 4 3"), 1);
         check.same("T5 the beginning of the word", Marsh.errorOf("mars"), 0);
+        check.same("T5 another first letter", Marsh.errorOf("harsh 4 3 clear 7;" + ROWS), 0);
+        check.same("T5 another last letter", Marsh.errorOf("marsz 4 3 clear 7;" + ROWS), 0);
+        check.same("T5 the letters a and z belong to words", Marsh.errorOf("marsh 4 3 clear 7;az"), 18);
+        check.same("T5 the letter z behind a word belongs to it", Marsh.errorOf("marshz 4 3 clear 7;" + ROWS), 0);
+        check.same("T5 the letter a behind a word belongs to it", Marsh.errorOf("marsha 4 3 clear 7;" + ROWS), 0);
         check.same("T5 no columns", Marsh.errorOf("marsh"), 5);
         check.same("T5 no columns behind spaces", Marsh.errorOf("marsh  "), 7);
         check.same("T5 1 column", Marsh.errorOf("marsh 1 3 clear 7;"), 6);
@@ -185,6 +192,7 @@ final class InputTest {
     }
 
     private static void refusesWrongRows() {
+        check.same("T5 no cells", Marsh.errorOf(HEAD + "row ;row fwwf;row ffpf;"), 22);
         check.same("T5 a short row", Marsh.errorOf(HEAD + "row fff;"), 22);
         check.same("T5 a long row", Marsh.errorOf(HEAD + "row fffff;"), 22);
         check.same("T5 another letter", Marsh.errorOf(HEAD + "row fffx;"), 22);
@@ -260,5 +268,52 @@ final class InputTest {
         check.same("T5 a second text", Marsh.errorOf(text + text), 45);
         check.same("T5 a semicolon too many", Marsh.errorOf(text + ";"), 45);
         check.same("T5 a number at the end", Marsh.errorOf(text + " 5"), 46);
+        check.same("T5 a light within a fog", Marsh.errorOf(text + "fog light 0 0 0 true;"), 49);
+        check.same("T5 a light within a fog", Marsh.errorOf(text + "fog 1 light 0 0 0 true;"), 51);
+        check.same("T5 a traveller within a light", Marsh.errorOf(text + "light 0 traveller 0 0;"), 53);
+        check.same("T5 a traveller within a light", Marsh.errorOf(text + "light 0 0 traveller 0 0;"), 55);
+        check.same("T5 a traveller within a light", Marsh.errorOf(text + "light 0 0 1 traveller 0 0;"), 57);
+        check.same("T5 a traveller within a traveller", Marsh.errorOf(text + "traveller traveller 0 0;"), 55);
+    }
+
+    private static void refusesTextsThatEndTooEarly() {
+        String[] tokens = (HEAD + ROWS + "fog 1 2;fog 3 4;light 0 0 1 true;light 1 0 2 false next 0;traveller 0 0;traveller 0 1;")
+                .replace(";", " ;").split(" ");
+        StringBuilder text = new StringBuilder();
+        int semicolons = 0;
+        for (String token : tokens) {
+            for (String part : token.startsWith(";") && token.length() > 1 ? new String[] {";", token.substring(1)} : new String[] {token}) {
+                text.append(part).append(' ');
+                semicolons += part.equals(";") ? 1 : 0;
+                boolean whole = part.equals(";") && semicolons >= 4;
+                check.same("T5 the text " + text, Marsh.errorOf(text.toString()), whole ? -1 : text.length());
+            }
+        }
+        check.same("T5 all statements were read", semicolons, 10);
+    }
+
+    private static void keepsNothingOfEarlierTextsAndQuestions() {
+        FalseLightMarsh marsh = Marsh.of("marsh 12 12 clear 9;" + "row ffffffffffff;".repeat(12)
+                + "fog 4 4;light 0 0 1 true;light 5 5 1 true next 0;light 3 3 1 false;traveller 9 9;traveller 0 1;traveller 4 3;traveller 2 3;");
+        marsh.tick(5);
+        marsh.arrivedAfter(300);
+        Marsh.append(marsh, "marsh 3 3 clear 1;row fff;row fff;row fff;light 2 2 0 false;light 1 1 0 false;traveller 0 0;traveller 0 2;");
+        marsh.load();
+        check.same("P4 all of the second text, and no more", Marsh.state(marsh),
+                "3x3 time 0 clear 1 fog" + " 0".repeat(24) + "\nfff\nfff\nfff\nlight 2 2 0 false -1\nlight 1 1 0 false -1\n"
+                + "0,0 walking steps 0 target -1 passed distrusts\n0,2 walking steps 0 target -1 passed distrusts\n");
+        Marsh.append(marsh, "marsh 3 2 clear 1;row fff;row fff;light 0 2 1 true;");
+        check.argument("P4 a light on a row that an earlier text had", marsh::load);
+        check.same("P6 at the row", marsh.errorOffset(), 42);
+        Marsh.append(marsh, "marsh 2 3 clear 1;row ff;row ff;row ff;light 2 0 1 true;");
+        check.argument("P4 a light on a column that an earlier text had", marsh::load);
+        check.same("P6 at the column", marsh.errorOffset(), 45);
+        Marsh.append(marsh, "marsh 3 2 clear 1;row fff;row fff;traveller 0 2;");
+        check.argument("P4 a traveller on a row that an earlier text had", marsh::load);
+        check.same("P6 at the row", marsh.errorOffset(), 46);
+        Marsh.append(marsh, "marsh 3 2 clear 1;row fff;row fff;");
+        marsh.load();
+        check.element("P15 no hut of an earlier text", () -> marsh.stepsToHut(0, 0));
+        check.element("P14 no way", () -> Marsh.of("marsh 3 2 clear 1;row fwf;row fwf;").pathLength(0, 0, 2, 0));
     }
 }

@@ -21,6 +21,8 @@ final class TickTest {
         arrivesOnAHutWithAFalseLight();
         followsSuccessors();
         sinksAndWarns();
+        distrustsManyLights();
+        looksForTheWayAnewAfterChanges();
         actsInTheOrderOfNumbers();
         check.end();
     }
@@ -250,6 +252,39 @@ final class TickTest {
         marsh.setTarget(4, 0);
         marsh.tick(1);
         check.same("T4 a target that is distrusted is gone to all the same", Marsh.traveller(marsh, 4), "0,0 sunk steps 1 target -1 passed distrusts 0");
+    }
+
+    private static void distrustsManyLights() {
+        FalseLightMarsh marsh = Marsh.of("marsh 5 2 clear 9;row fffff;row fffff;light 0 0 0 false;light 4 0 0 false;light 0 1 0 true;"
+                + "traveller 0 0;traveller 4 0;traveller 2 0;");
+        marsh.tick(1);
+        check.same("T4 both lights", Marsh.traveller(marsh, 2), "2,1 walking steps 1 target 2 passed distrusts 0 1");
+        marsh.undo();
+        check.same("T4 neither", Marsh.traveller(marsh, 2), "2,0 walking steps 0 target -1 passed distrusts");
+        check.no("P61 nobody is warned any more", marsh.distrusts(2, 0) || marsh.distrusts(2, 1));
+    }
+
+    private static void looksForTheWayAnewAfterChanges() {
+        FalseLightMarsh marsh = Marsh.of("marsh 6 3 clear 20;row fwfffh;row fwffff;row ffffff;light 5 0 0 true;traveller 0 0;");
+        marsh.tick(1);
+        check.same("T4 round the water", Marsh.traveller(marsh, 0), "0,1 walking steps 1 target 0 passed distrusts");
+        check.same("P47 the long way", marsh.ticksUntilDone(0), 8);
+        marsh.layPlank(1, 1, 5);
+        check.same("P47 over the plank", marsh.ticksUntilDone(0), 6);
+        marsh.tick(1);
+        check.same("T4 over the plank", Marsh.traveller(marsh, 0), "1,1 walking steps 2 target 0 passed distrusts");
+        marsh.undo();
+        marsh.undo();
+        marsh.tick(1);
+        check.same("T4 round the water again", Marsh.traveller(marsh, 0), "0,2 walking steps 2 target 0 passed distrusts");
+        Marsh.append(marsh, "marsh 6 3 clear 20;row fffffh;row ffffff;row ffffff;light 0 2 0 true;traveller 0 0;");
+        marsh.load();
+        marsh.tick(1);
+        check.same("T4 to the light of another text", Marsh.traveller(marsh, 0), "0,1 walking steps 1 target 0 passed distrusts");
+        check.element("P47 it never comes to a hut", () -> marsh.ticksUntilDone(0));
+        Marsh.append(marsh, "marsh 6 3 clear 20;row fffffh;row ffffff;row ffffff;light 5 0 0 true;traveller 4 0;");
+        marsh.load();
+        check.same("P47 to the hut's light of another text", marsh.ticksUntilDone(0), 1);
     }
 
     private static void actsInTheOrderOfNumbers() {

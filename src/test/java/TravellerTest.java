@@ -120,10 +120,28 @@ final class TravellerTest {
         check.same("P46 four steps of three", marsh.meanSteps(), 4.0 / 3.0);
         check.yes("P38 passed", marsh.hasPassed(2, 2));
         check.no("P38 not passed", marsh.hasPassed(2, 1));
+        differsInNumbers();
         FalseLightMarsh empty = new FalseLightMarsh();
         check.same("P45 no travellers", empty.arrivedShare(), 0.0f);
         check.same("P46 no travellers", empty.meanSteps(), 0.0);
         check.same("P42 no travellers", empty.walkingCount() + empty.arrivedCount() + empty.sunkCount(), 0);
+    }
+
+    private static void differsInNumbers() {
+        FalseLightMarsh marsh = Marsh.of("marsh 5 3 clear 0;row fffff;row fwphf;row fffff;light 4 2 0 false;light 3 1 1 true;"
+                + "traveller 4 2;traveller 4 2;traveller 3 0;traveller 4 2;");
+        marsh.tick(1);
+        check.same("P44 only one has sunk", marsh.sunkCount(), 1);
+        check.same("P42 two on the same cell were warned", marsh.walkingCount(), 2);
+        marsh.setTarget(1, 0);
+        marsh.tick(1);
+        marsh.setTarget(3, 0);
+        marsh.tick(1);
+        check.same("P44 three have sunk", marsh.sunkCount(), 3);
+        check.same("P43 one has arrived", marsh.arrivedCount(), 1);
+        check.same("P42 none walks", marsh.walkingCount(), 0);
+        check.same("P45 one of four", marsh.arrivedShare(), 0.25f);
+        check.same("P46 one step of four", marsh.meanSteps(), 0.25);
     }
 
     private static void tellsWhatIsSeen() {
