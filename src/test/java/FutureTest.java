@@ -6,6 +6,7 @@ final class FutureTest {
     public static void main(String[] args) {
         tellsWhenOneIsDone();
         waitsForTheHourOfSight();
+        waitsForAWholeDay();
         looksThreeHundredTicksAhead();
         tellsWhoWillArrive();
         countsAfterTicks();
@@ -49,6 +50,31 @@ final class FutureTest {
         check.same("P47 in the very next tick", marsh.ticksUntilDone(0), 1);
         check.same("P49 0 ticks", marsh.arrivedAfter(0), 0);
         check.same("P49 1 tick", marsh.arrivedAfter(1), 1);
+    }
+
+    // Hour 0 is the only one of sight: a day after the start, and a day after the first light was passed.
+    private static void waitsForAWholeDay() {
+        StringBuilder fogs = new StringBuilder();
+        for (int hour = 1; hour < 24; hour++) {
+            fogs.append("fog ").append(hour).append(" 9;");
+        }
+        String text = "marsh 3 2 clear 5;row fhf;row fff;" + fogs;
+        FalseLightMarsh marsh = Marsh.of(text + "light 0 1 0 true;light 1 0 0 true;traveller 0 0;");
+        check.same("P47 a day for each of two lights, and a step more", marsh.ticksUntilDone(0), 49);
+        check.same("P49 not yet", marsh.arrivedAfter(48), 0);
+        check.same("P49 then", marsh.arrivedAfter(49), 1);
+        check.yes("P48 then", marsh.willArrive(0));
+        check.same("P52 nobody arrives", marsh.tick(47), 0);
+        check.same("P52 the first light was passed", Marsh.traveller(marsh, 0), "0,1 walking steps 1 target -1 passed 0 distrusts");
+        check.same("P47 the hour of sight comes next", marsh.ticksUntilDone(0), 2);
+        check.same("P52 one arrives", marsh.tick(100), 1);
+        check.same("P16 all ticks passed", marsh.time(), 147);
+        FalseLightMarsh idle = Marsh.of(text + "traveller 0 0;");
+        check.same("P52 nobody does anything", idle.tick(100), 0);
+        check.same("P16 all ticks passed", idle.time(), 100);
+        check.same("P19 the sight at hour 4", idle.sight(), 0);
+        idle.tick(20);
+        check.same("P19 the sight at hour 0", idle.sight(), 5);
     }
 
     // Along one winding way of 77 steps, at its steps 76, 0, 75, 39 and 77 (a hut), stand lights that

@@ -9,6 +9,7 @@ final class InputTest {
         appendsTwentyBytes();
         refusesMoreThanTheBufferTakes();
         shortens();
+        readsTextsOfTheGreatestLength();
         loads();
         replacesEverythingButThePrintedText();
         failedLoadChangesLittle();
@@ -23,6 +24,7 @@ final class InputTest {
         refusesStatementsOutOfOrder();
         refusesTextsThatEndTooEarly();
         keepsNothingOfEarlierTextsAndQuestions();
+        keepsNothingOfEarlierTravellers();
         check.end();
     }
 
@@ -64,6 +66,35 @@ final class InputTest {
         check.same("P3 the same length", marsh.shorten(length), length);
         check.same("P3 the first bytes stay", marsh.shorten(length - 3), length - 3);
         check.same("P3 what was cut off is not read", marsh.load(), 1);
+        Marsh.append(marsh, "marsh 4 3 clear");
+        marsh.shorten(14);
+        check.argument("P3 a word is cut", marsh::load);
+        check.same("P3 its rest does not belong to it", marsh.errorOffset(), 10);
+        Marsh.append(marsh, "marsh 4 3 clear 123");
+        marsh.shorten(18);
+        check.argument("P3 a number is cut", marsh::load);
+        Marsh.append(marsh, "marsh 4 3 clear 12");
+        marsh.shorten(17);
+        check.argument("P3 the text ends too early", marsh::load);
+        check.same("P3 at its new length", marsh.errorOffset(), 17);
+    }
+
+    private static void readsTextsOfTheGreatestLength() {
+        String text = HEAD + ROWS;
+        String blanks = " ".repeat(800 - text.length());
+        FalseLightMarsh marsh = new FalseLightMarsh();
+        check.same("P2 800 bytes", Marsh.append(marsh, blanks + text), 800);
+        check.same("P4 800 bytes", marsh.load(), 0);
+        check.same("P7 the columns", marsh.width(), 4);
+        Marsh.append(marsh, text + blanks.substring(1) + "x");
+        check.argument("P4 a word at the end", marsh::load);
+        check.same("P6 it is the last byte", marsh.errorOffset(), 799);
+        Marsh.append(marsh, text + blanks.substring(1) + "1");
+        check.argument("P4 a number at the end", marsh::load);
+        check.same("P6 it is the last byte", marsh.errorOffset(), 799);
+        Marsh.append(marsh, text + blanks.substring(6) + "fog 10");
+        check.argument("P4 the text ends too early", marsh::load);
+        check.same("P6 it is the length", marsh.errorOffset(), 800);
     }
 
     private static void loads() {
@@ -185,6 +216,8 @@ final class InputTest {
         check.same("T5 1 row", Marsh.errorOf("marsh 4 1 clear 7;"), 8);
         check.same("T5 13 rows", Marsh.errorOf("marsh 4 13 clear 7;"), 8);
         check.same("T5 no clear", Marsh.errorOf("marsh 4 3 ;"), 10);
+        check.same("T5 rows in place of clear", Marsh.errorOf("marsh 4 3 " + ROWS), 10);
+        check.same("T5 rows in place of the clearness", Marsh.errorOf("marsh 4 3 clear " + ROWS), 16);
         check.same("T5 clearness 21", Marsh.errorOf("marsh 4 3 clear 21;"), 16);
         check.same("T5 a word for the clearness", Marsh.errorOf("marsh 4 3 clear x;"), 16);
         check.same("T5 no semicolon", Marsh.errorOf("marsh 4 3 clear 20 row"), 19);
@@ -192,6 +225,8 @@ final class InputTest {
     }
 
     private static void refusesWrongRows() {
+        check.same("T5 cells without row", Marsh.errorOf("marsh 3 2 clear 7;fff;row fff;"), 18);
+        check.same("T5 cells without row, behind a row", Marsh.errorOf("marsh 3 2 clear 7;row fff;fff;"), 26);
         check.same("T5 no cells", Marsh.errorOf(HEAD + "row ;row fwwf;row ffpf;"), 22);
         check.same("T5 a short row", Marsh.errorOf(HEAD + "row fff;"), 22);
         check.same("T5 a long row", Marsh.errorOf(HEAD + "row fffff;"), 22);
@@ -234,6 +269,7 @@ final class InputTest {
         check.same("T5 both true and false", Marsh.errorOf(text + "light 0 0 9 true false;"), 62);
         check.same("T5 no successor after next", Marsh.errorOf(text + "light 0 0 9 true;light 1 0 9 true next;"), 83);
         check.same("T5 a first light has none before it", Marsh.errorOf(text + "light 0 0 9 true next 0;"), 67);
+        check.same("T5 next in place of true", Marsh.errorOf(text + "light 0 0 9 true;light 1 0 9 next 0;"), 74);
         check.same("T5 the light itself", Marsh.errorOf(text + "light 0 0 9 true;light 1 0 9 true next 1;"), 84);
         check.same("T5 a successor before it", Marsh.errorOf(text + "light 0 0 9 true;light 1 0 9 true next 0;"), -1);
         check.same("T5 two successors", Marsh.errorOf(text + "light 0 0 9 true;light 1 0 9 true next 0 next 0;"), 86);
@@ -276,6 +312,25 @@ final class InputTest {
         check.same("T5 a traveller within a traveller", Marsh.errorOf(text + "traveller traveller 0 0;"), 55);
     }
 
+    private static void keepsNothingOfEarlierTravellers() {
+        String light = "marsh 4 2 clear 9;row ffff;row ffff;light 1 0 0 false;";
+        FalseLightMarsh marsh = Marsh.of(light + "traveller 1 0;traveller 3 0;traveller 3 1;");
+        check.same("P50 one sinks, and the others are warned", marsh.sunkAfter(1), 1);
+        Marsh.append(marsh, light + "light 0 1 0 true;traveller 2 0;traveller 2 1;");
+        check.same("P4 two travellers", marsh.load(), 2);
+        check.no("P4 the first was not warned", marsh.distrusts(0, 0));
+        check.no("P4 the second was not warned", marsh.distrusts(1, 0));
+        check.same("P49 nor has anyone arrived", marsh.arrivedAfter(300), 0);
+        FalseLightMarsh far = Marsh.of(light + "light 0 1 0 true;traveller 0 0;traveller 3 1;traveller 3 1;");
+        far.setTarget(1, 1);
+        far.setTarget(2, 1);
+        check.same("P50 only the first sinks", far.sunkAfter(300), 1);
+        Marsh.append(far, light + "traveller 2 0;");
+        far.load();
+        check.same("P46 the steps of earlier travellers do not count", far.meanSteps(), 0.0);
+        check.same("P43 nor do they themselves", far.arrivedCount() + far.sunkCount(), 0);
+    }
+
     private static void refusesTextsThatEndTooEarly() {
         String[] tokens = (HEAD + ROWS + "fog 1 2;fog 3 4;light 0 0 1 true;light 1 0 2 false next 0;traveller 0 0;traveller 0 1;")
                 .replace(";", " ;").split(" ");
@@ -311,9 +366,14 @@ final class InputTest {
         Marsh.append(marsh, "marsh 3 2 clear 1;row fff;row fff;traveller 0 2;");
         check.argument("P4 a traveller on a row that an earlier text had", marsh::load);
         check.same("P6 at the row", marsh.errorOffset(), 46);
-        Marsh.append(marsh, "marsh 3 2 clear 1;row fff;row fff;");
+        Marsh.append(marsh, "marsh 12 12 clear 1;" + "row hhhhhhhhhhhh;".repeat(12));
         marsh.load();
-        check.element("P15 no hut of an earlier text", () -> marsh.stepsToHut(0, 0));
+        check.same("P15 a hut", marsh.stepsToHut(11, 11), 0);
+        for (String text : new String[] {"marsh 3 2 clear 1;row fff;row fff;", "marsh 12 12 clear 1;" + "row ffffffffffff;".repeat(12)}) {
+            Marsh.append(marsh, text);
+            marsh.load();
+            check.element("P15 no hut of an earlier text", () -> marsh.stepsToHut(0, 0));
+        }
         check.element("P14 no way", () -> Marsh.of("marsh 3 2 clear 1;row fwf;row fwf;").pathLength(0, 0, 2, 0));
     }
 }
