@@ -1,3 +1,6 @@
+import java.util.ArrayList;
+import java.util.List;
+
 /** Compares answers with those that are due, prints every wrong one, and ends with exit code 1 if there was one. */
 final class Check {
 
@@ -6,8 +9,24 @@ final class Check {
         void run();
     }
 
+    /** What a test quotes from the document: the section (T1 to T6, P1 to P65) and a part of it. */
+    record Quote(String section, String words) {
+    }
+
+    private final List<Quote> quotes = new ArrayList<>();
+    private String sentence = "";
     private int wrong;
     private int checked;
+
+    /** The checks that follow are those of this sentence of the document. */
+    void about(String section, String words) {
+        quotes.add(new Quote(section, words));
+        sentence = section + " \"" + words + "\": ";
+    }
+
+    List<Quote> quotes() {
+        return quotes;
+    }
 
     void same(String what, long got, long due) {
         report(what, got == due, Long.toString(got), Long.toString(due));
@@ -49,23 +68,33 @@ final class Check {
         fails(what, java.util.NoSuchElementException.class, call);
     }
 
+    /** The call throws nothing, or something else than an exception about an index. */
+    void notIndex(String what, Call call) {
+        String got = thrown(call);
+        report(what, !got.equals(IndexOutOfBoundsException.class.getName()), got, "anything else");
+    }
+
     // The exact class: one that the Java machine throws, such as
     // ArrayIndexOutOfBoundsException, must not pass for the class above it.
     private void fails(String what, Class<?> due, Call call) {
-        String got = "nothing thrown";
+        String got = thrown(call);
+        report(what, got.equals(due.getName()), got, due.getName());
+    }
+
+    static String thrown(Call call) {
         try {
             call.run();
+            return "nothing thrown";
         } catch (RuntimeException e) {
-            got = e.getClass().getName();
+            return e.getClass().getName();
         }
-        report(what, got.equals(due.getName()), got, due.getName());
     }
 
     private void report(String what, boolean right, String got, String due) {
         checked++;
         if (!right) {
             wrong++;
-            System.out.println(what + ": answered " + got + ", due is " + due);
+            System.out.println(sentence + what + ": answered " + got + ", due is " + due);
         }
     }
 

@@ -29,9 +29,40 @@ final class Marsh {
         return marsh;
     }
 
-    /** The error offset of a text, -1 if it has no error. */
+    /** The beginning of a text: firm ground everywhere. */
+    static String field(int columns, int rows, int clearness) {
+        return "marsh " + columns + " " + rows + " clear " + clearness + ";" + ("row " + "f".repeat(columns) + ";").repeat(rows);
+    }
+
+    /** The fogs of a text: the same from one hour to another one. */
+    static String fogs(int first, int last, int fog) {
+        StringBuilder text = new StringBuilder();
+        for (int hour = first; hour <= last; hour++) {
+            text.append("fog ").append(hour).append(' ').append(fog).append(';');
+        }
+        return text.toString();
+    }
+
+    /** One way of 77 steps from the first cell to the last row's first cell, which is of the given letter. */
+    static String winding(int clearness, char last) {
+        return "marsh 12 12 clear " + clearness + ";"
+                + ("row ffffffffffff;row wwwwwwwwwwwf;row ffffffffffff;row fwwwwwwwwwww;").repeat(2)
+                + "row ffffffffffff;row wwwwwwwwwwwf;row ffffffffffff;row " + last + "wwwwwwwwwww;";
+    }
+
+    static void tickTo(FalseLightMarsh marsh, int time) {
+        while (marsh.time() < time) {
+            marsh.tick(Math.min(100, time - marsh.time()));
+        }
+    }
+
+    /** The error offset of a text, -1 if it has no error, -2 if it matters that the greatest marsh was read just before. */
     static int errorOf(String text) {
-        FalseLightMarsh marsh = new FalseLightMarsh();
+        int error = errorOf(new FalseLightMarsh(), text);
+        return errorOf(of(field(12, 12, 20)), text) == error ? error : -2;
+    }
+
+    private static int errorOf(FalseLightMarsh marsh, String text) {
         append(marsh, text);
         try {
             marsh.load();
@@ -100,5 +131,34 @@ final class Marsh {
             all.append(marsh.distrusts(traveller, light) ? " " + light : "");
         }
         return all.toString();
+    }
+
+    /** Besides the state: the printed text, what can be undone and the snapshots, and if wanted the input too. It uses the object up. */
+    static String everything(FalseLightMarsh marsh, boolean withInput) {
+        StringBuilder all = new StringBuilder(state(marsh));
+        for (int n = 0; !Calls.answer(marsh, "printedByte", n).startsWith("throws"); n++) {
+            all.append((char) marsh.printedByte(n));
+        }
+        if (withInput) {
+            all.append(marsh.hasError()).append(Calls.answer(marsh, "errorOffset"));
+        }
+        for (String left = Calls.answer(marsh, "undo"); !left.startsWith("throws"); left = Calls.answer(marsh, "undo")) {
+            all.append("\nundone to ").append(left).append(' ').append(state(marsh));
+        }
+        for (int slot = 0; slot < 2; slot++) {
+            all.append("\nslot ").append(Calls.answer(marsh, "restoreSnapshot", slot)).append(' ').append(state(marsh));
+        }
+        if (withInput) {
+            all.append("\nbuffer ").append(length(marsh)).append(Calls.answer(marsh, "load")).append(Calls.answer(marsh, "errorOffset")).append(state(marsh));
+        }
+        return all.toString();
+    }
+
+    private static int length(FalseLightMarsh marsh) {
+        int length = 800;
+        while (Calls.answer(marsh, "shorten", length).startsWith("throws")) {
+            length--;
+        }
+        return length;
     }
 }

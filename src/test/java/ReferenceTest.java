@@ -1,8 +1,5 @@
-import java.lang.reflect.InvocationTargetException;
 import java.lang.reflect.Method;
-import java.lang.reflect.Modifier;
 import java.util.ArrayList;
-import java.util.Comparator;
 import java.util.List;
 import java.util.Random;
 
@@ -42,15 +39,7 @@ final class ReferenceTest {
     }
 
     private static void sortMethods() {
-        List<Method> all = new ArrayList<>();
-        for (Method method : FalseLightMarsh.class.getDeclaredMethods()) {
-            if (Modifier.isPublic(method.getModifiers())) {
-                all.add(method);
-            }
-        }
-        // Reflection promises no order, and the runs are to be the same everywhere.
-        all.sort(Comparator.comparing(Method::getName));
-        for (Method method : all) {
+        for (Method method : Calls.all()) {
             String name = method.getName();
             if (CHANGES.contains(name)) {
                 changes.add(method);
@@ -121,15 +110,7 @@ final class ReferenceTest {
             text = spoil(text);
         }
         for (int at = 0; at < text.length(); at += 20) {
-            Object[] words = new Object[5];
-            for (int n = 0; n < 5; n++) {
-                int word = 0;
-                for (int k = at + 4 * n; k < at + 4 * n + 4; k++) {
-                    word = word << 8 | (k < text.length() ? text.charAt(k) : ' ');
-                }
-                words[n] = word;
-            }
-            call("append", words);
+            call("append", Calls.words(text, at));
         }
         call("shorten", text.length());
         call("load");
@@ -197,24 +178,10 @@ final class ReferenceTest {
     }
 
     private void call(String name, Object... values) {
-        String got = answer(marsh, name, values);
-        String due = answer(reference, name, values);
+        String got = Calls.answer(marsh, name, values);
+        String due = Calls.answer(reference, name, values);
         calls.append(name).append(java.util.Arrays.toString(values)).append(" = ").append(got).append('\n');
         differs |= !got.equals(due);
         check.same(name, got, due);
-    }
-
-    private static String answer(Object object, String name, Object[] values) {
-        Class<?>[] types = new Class<?>[values.length];
-        for (int n = 0; n < values.length; n++) {
-            types[n] = values[n] instanceof Boolean ? boolean.class : int.class;
-        }
-        try {
-            return object.getClass().getMethod(name, types).invoke(object, values).toString();
-        } catch (InvocationTargetException e) {
-            return "throws " + e.getCause().getClass().getName();
-        } catch (ReflectiveOperationException e) {
-            throw new IllegalStateException(e);
-        }
     }
 }
