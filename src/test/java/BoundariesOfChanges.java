@@ -401,8 +401,9 @@ final class BoundariesOfChanges {
             marsh.tick(1 + n);
             marsh.setFog(n, 9);
             check.same("the time afterwards", marsh.restoreSnapshot(1), 7);
-            check.same("all of it", Marsh.state(marsh), saved);
+            check.same("the fog", marsh.fog(n), 0);
         }
+        check.same("all of it", Marsh.state(marsh), saved);
         marsh.undo();
         check.same("also after it was undone", marsh.restoreSnapshot(1), 7);
         FalseLightMarsh late = new FalseLightMarsh();

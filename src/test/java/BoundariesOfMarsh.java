@@ -162,21 +162,24 @@ final class BoundariesOfMarsh {
 
     private void refusesToLoad() {
         check.about("P4", "Throws `IllegalArgumentException` if the text has an error");
+        String whole = FIRST + "fog 1 1;light 0 0 1 true;light 1 0 1 true next 0;traveller 0 0;";
+        for (int length = 0; length < whole.length(); length++) {
+            if (length < FIRST.length() || whole.charAt(length - 1) != ';') {
+                refusesToLoad(whole.substring(0, length));
+            }
+        }
+    }
+
+    private void refusesToLoad(String text) {
         FalseLightMarsh marsh = Marsh.of(Marsh.field(3, 2, 9) + "light 0 0 9 false;traveller 0 1;");
         marsh.tick(1);
         marsh.saveSnapshot(1);
         String before = Marsh.state(marsh);
-        String whole = FIRST + "fog 1 1;light 0 0 1 true;light 1 0 1 true next 0;traveller 0 0;";
-        for (int length = 0; length < whole.length(); length++) {
-            String text = whole.substring(0, length);
-            if (length < FIRST.length() || whole.charAt(length - 1) != ';') {
-                Marsh.append(marsh, text);
-                check.argument("the text " + text, marsh::load);
-            }
-        }
-        check.same("nothing changed", Marsh.state(marsh), before);
-        check.same("the snapshot stays", marsh.restoreSnapshot(1), 1);
-        check.same("what can be undone stays", marsh.undo(), 1);
+        Marsh.append(marsh, text);
+        check.argument("the text " + text, marsh::load);
+        check.same("nothing changed after " + text, Marsh.state(marsh), before);
+        check.same("the snapshot stays after " + text, marsh.restoreSnapshot(1), 1);
+        check.same("what can be undone stays after " + text, marsh.undo(), 1);
     }
 
     private void tellsNoErrorAtFirst() {

@@ -16,6 +16,7 @@ final class ChangeTest {
         countsNoOtherCallsAsChanges();
         undoLeavesWhatIsNotItsOwn();
         savesSnapshots();
+        replacesSnapshots();
         restoresSnapshots();
         refusesSlots();
         check.end();
@@ -192,6 +193,13 @@ final class ChangeTest {
         check.same("P63 all as it was", Marsh.state(marsh), second);
         check.same("P63 the time afterwards", marsh.restoreSnapshot(0), 0);
         check.same("P63 all as it was", Marsh.state(marsh), first);
+    }
+
+    private static void replacesSnapshots() {
+        FalseLightMarsh marsh = Marsh.of(TEXT);
+        marsh.saveSnapshot(0);
+        String first = Marsh.state(marsh);
+        marsh.saveSnapshot(1);
         marsh.setClearness(17);
         marsh.saveSnapshot(1);
         marsh.setClearness(1);

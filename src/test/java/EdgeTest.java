@@ -22,71 +22,59 @@ final class EdgeTest {
     private static final String LIGHTS = "light 0 0 0 false;light 2 0 1 true;light 3 0 1 true next 1;";
     private static final String TRAVELLERS = "traveller 0 0;traveller 3 1;traveller 0 2;";
     private static final Check check = new Check();
-
-    private final List<String> names = new ArrayList<>();
-    private final List<Object[]> values = new ArrayList<>();
+    // So many refused calls are made on one object: with those that prepare it and look at it they stay within 512.
+    private static final int GROUP = 64;
 
     public static void main(String[] args) {
         check.about("T6", "A call that throws an exception changes nothing, except that load empties the input buffer and sets the error.");
         for (Method method : Calls.all()) {
-            new EdgeTest().tryAll("new", method);
-            inUse().tryAll("in use", method);
-            full().tryAll("full", method);
+            tryAll("new", new Recipe(), method);
+            tryAll("in use", inUse(), method);
+            tryAll("full", full(), method);
         }
         Document.compare(check, false);
         check.end();
     }
 
-    private EdgeTest with(String name, Object... arguments) {
-        names.add(name);
-        values.add(arguments);
-        return this;
-    }
-
-    private EdgeTest withText(String text) {
-        for (int at = 0; at < text.length(); at += 20) {
-            with("append", Calls.words(text, at));
-        }
-        return this;
-    }
-
-    private static EdgeTest inUse() {
-        EdgeTest calls = new EdgeTest().withText(MARSH + LIGHTS + TRAVELLERS).with("load");
-        calls.with("tick", 1).with("saveSnapshot", 1).with("setTarget", 2, 1).with("layPlank", 0, 1, 1).with("tick", 2).with("print");
+    private static Recipe inUse() {
+        Recipe calls = new Recipe().withText(MARSH + LIGHTS + TRAVELLERS).with("load");
+        calls = calls.with("tick", 1).with("saveSnapshot", 1).with("setTarget", 2, 1).with("layPlank", 0, 1, 1).with("tick", 2).with("print");
         return calls.with("setClearness", 5).with("undo").with("load").withText(MARSH + "traveller 1 2;");
     }
 
-    private static EdgeTest full() {
-        EdgeTest calls = new EdgeTest().withText(MARSH + LIGHTS + "light 0 1 0 true;light 3 1 9 true;light 0 2 1 false;light 1 2 2 true;light 2 2 3 true;"
+    private static Recipe full() {
+        Recipe calls = new Recipe().withText(MARSH + LIGHTS + "light 0 1 0 true;light 3 1 9 true;light 0 2 1 false;light 1 2 2 true;light 2 2 3 true;"
                 + TRAVELLERS + TRAVELLERS).with("load").with("saveSnapshot", 0);
         for (int n = 0; n < 99; n++) {
-            calls.with("tick", 100);
+            calls = calls.with("tick", 100);
         }
-        calls.with("saveSnapshot", 1).with("tick", 50).with("setClearness", 7).with("print").with("append", 0, 0, 0, 0, 0).with("load");
+        calls = calls.with("saveSnapshot", 1).with("tick", 50).with("setClearness", 7).with("print").with("append", 0, 0, 0, 0, 0).with("load");
         return calls.withText((MARSH + LIGHTS + TRAVELLERS + " ".repeat(800)).substring(0, 799) + "x");
     }
 
-    private <T> T prepare(T object) {
-        for (int n = 0; n < names.size(); n++) {
-            Calls.answer(object, names.get(n), values.get(n));
-        }
-        return object;
-    }
-
-    private void tryAll(String state, Method method) {
+    private static void tryAll(String state, Recipe before, Method method) {
         String name = method.getName();
-        boolean withInput = !name.equals("load");
-        FalseLightMarsh refusing = prepare(new FalseLightMarsh());
-        ReferenceMarsh reference = prepare(new ReferenceMarsh());
+        String of = "of one " + state + ": " + name;
+        List<Object[]> refused = new ArrayList<>();
+        ReferenceMarsh reference = before.make(new ReferenceMarsh());
         for (Object[] arguments : waysToCall(method)) {
             String due = Calls.answer(reference, name, arguments);
-            boolean refused = due.startsWith("throws");
-            FalseLightMarsh marsh = refused ? refusing : prepare(new FalseLightMarsh());
-            check.same("of one " + state + ": " + name + Arrays.toString(arguments), Calls.answer(marsh, name, arguments), due);
-            reference = refused ? reference : prepare(new ReferenceMarsh());
+            check.same(of + Arrays.toString(arguments), Calls.answer(before.make(), name, arguments), due);
+            if (due.startsWith("throws")) {
+                refused.add(arguments);
+            } else {
+                reference = before.make(new ReferenceMarsh());
+            }
         }
-        check.same("of one " + state + ": after every " + name + " that throws", Marsh.everything(refusing, withInput),
-                Marsh.everything(prepare(new FalseLightMarsh()), withInput));
+        boolean withInput = !name.equals("load");
+        String due = refused.isEmpty() ? "" : before.everything(withInput);
+        for (int first = 0; first < refused.size(); first += GROUP) {
+            Recipe after = before;
+            for (Object[] arguments : refused.subList(first, Math.min(first + GROUP, refused.size()))) {
+                after = after.with(name, arguments);
+            }
+            check.same(of + ": after those that throw, from number " + first + " on", after.everything(withInput), due);
+        }
     }
 
     /** All edges as each of the numbers; what is no number is true and false in turn. */

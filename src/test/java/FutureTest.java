@@ -158,24 +158,21 @@ final class FutureTest {
     }
 
     private static void changesNothing() {
-        FalseLightMarsh marsh = Marsh.of("marsh 6 2 clear 7;row ffpphf;row ffffww;fog 1 3;light 4 0 0 true;light 0 0 0 false;"
-                + "traveller 0 1;traveller 5 0;traveller 2 0;traveller 1 0;");
-        marsh.layPlank(2, 0, 1);
-        marsh.setTarget(3, 1);
-        marsh.saveSnapshot(0);
-        marsh.print();
-        String before = Marsh.state(marsh);
-        check.same("P47 is asked", marsh.ticksUntilDone(2), 2);
-        check.same("P47 changes nothing", Marsh.state(marsh), before);
-        check.yes("P48 is asked", marsh.willArrive(2));
-        check.same("P48 changes nothing", Marsh.state(marsh), before);
-        check.same("P49 is asked", marsh.arrivedAfter(300), 3);
-        check.same("P49 changes nothing", Marsh.state(marsh), before);
-        check.same("P50 is asked", marsh.sunkAfter(300), 1);
-        check.same("P50 changes nothing", Marsh.state(marsh), before);
-        check.same("P51 is asked", marsh.bestClearness(), 4);
-        check.same("P51 changes nothing", Marsh.state(marsh), before);
-        check.same("P61 no change to undo", marsh.undo(), 1);
+        Recipe before = new Recipe().withText("marsh 6 2 clear 7;row ffpphf;row ffffww;fog 1 3;light 4 0 0 true;light 0 0 0 false;"
+                + "traveller 0 1;traveller 5 0;traveller 2 0;traveller 1 0;").with("load");
+        before = before.with("layPlank", 2, 0, 1).with("setTarget", 3, 1).with("saveSnapshot", 0).with("print").withText("marsh");
+        check.same("P47 is asked", before.make().ticksUntilDone(2), 2);
+        check.yes("P48 is asked", before.make().willArrive(2));
+        check.same("P49 is asked", before.make().arrivedAfter(300), 3);
+        check.same("P50 is asked", before.make().sunkAfter(300), 1);
+        check.same("P51 is asked", before.make().bestClearness(), 4);
+        String due = before.everything(true);
+        check.same("P47 changes nothing", before.with("ticksUntilDone", 2).everything(true), due);
+        check.same("P48 changes nothing", before.with("willArrive", 2).everything(true), due);
+        check.same("P49 changes nothing", before.with("arrivedAfter", 300).everything(true), due);
+        check.same("P50 changes nothing", before.with("sunkAfter", 300).everything(true), due);
+        check.same("P51 changes nothing", before.with("bestClearness").everything(true), due);
+        check.same("P61 no change to undo", before.with("bestClearness").make().undo(), 1);
     }
 
     private static void goesBeyondTheLastTime() {

@@ -51,8 +51,8 @@ final class Marsh {
     }
 
     static void tickTo(FalseLightMarsh marsh, int time) {
-        while (marsh.time() < time) {
-            marsh.tick(Math.min(100, time - marsh.time()));
+        for (int now = marsh.time(); now < time; now += 100) {
+            marsh.tick(Math.min(100, time - now));
         }
     }
 
@@ -83,25 +83,29 @@ final class Marsh {
 
     /** All answers of the calls that ask about the present, in one text. */
     static String state(FalseLightMarsh marsh) {
+        int width = marsh.width();
+        int height = marsh.height();
+        int lights = marsh.lightCount();
+        int travellers = marsh.travellerCount();
         StringBuilder all = new StringBuilder();
-        all.append(marsh.width()).append('x').append(marsh.height());
+        all.append(width).append('x').append(height);
         all.append(" time ").append(marsh.time()).append(" clear ").append(marsh.clearness()).append(" fog");
         for (int hour = 0; hour < 24; hour++) {
             all.append(' ').append(marsh.fog(hour));
         }
-        for (int y = 0; y < marsh.height(); y++) {
+        for (int y = 0; y < height; y++) {
             all.append('\n');
-            for (int x = 0; x < marsh.width(); x++) {
+            for (int x = 0; x < width; x++) {
                 all.append(sign(marsh, x, y));
             }
         }
-        for (int light = 0; light < marsh.lightCount(); light++) {
+        for (int light = 0; light < lights; light++) {
             all.append("\nlight ").append(marsh.lightColumn(light)).append(' ').append(marsh.lightRow(light));
             all.append(' ').append(marsh.brightness(light)).append(' ').append(marsh.isTrueLight(light));
             all.append(' ').append(marsh.hasSuccessor(light) ? marsh.successor(light) : -1);
         }
-        for (int traveller = 0; traveller < marsh.travellerCount(); traveller++) {
-            all.append('\n').append(traveller(marsh, traveller));
+        for (int traveller = 0; traveller < travellers; traveller++) {
+            all.append('\n').append(traveller(marsh, traveller, lights));
         }
         return all.append('\n').toString();
     }
@@ -115,6 +119,10 @@ final class Marsh {
 
     /** The answers about one traveller: cell, state, steps, target, lights passed, lights distrusted. */
     static String traveller(FalseLightMarsh marsh, int traveller) {
+        return traveller(marsh, traveller, marsh.lightCount());
+    }
+
+    private static String traveller(FalseLightMarsh marsh, int traveller, int lights) {
         StringBuilder all = new StringBuilder();
         all.append(marsh.travellerColumn(traveller)).append(',').append(marsh.travellerRow(traveller));
         all.append(marsh.isWalking(traveller) ? " walking" : "");
@@ -123,42 +131,13 @@ final class Marsh {
         all.append(" steps ").append(marsh.stepsTaken(traveller));
         all.append(" target ").append(marsh.hasTarget(traveller) ? marsh.target(traveller) : -1);
         all.append(" passed");
-        for (int light = 0; light < marsh.lightCount(); light++) {
+        for (int light = 0; light < lights; light++) {
             all.append(marsh.hasPassed(traveller, light) ? " " + light : "");
         }
         all.append(" distrusts");
-        for (int light = 0; light < marsh.lightCount(); light++) {
+        for (int light = 0; light < lights; light++) {
             all.append(marsh.distrusts(traveller, light) ? " " + light : "");
         }
         return all.toString();
-    }
-
-    /** Besides the state: the printed text, what can be undone and the snapshots, and if wanted the input too. It uses the object up. */
-    static String everything(FalseLightMarsh marsh, boolean withInput) {
-        StringBuilder all = new StringBuilder(state(marsh));
-        for (int n = 0; !Calls.answer(marsh, "printedByte", n).startsWith("throws"); n++) {
-            all.append((char) marsh.printedByte(n));
-        }
-        if (withInput) {
-            all.append(marsh.hasError()).append(Calls.answer(marsh, "errorOffset"));
-        }
-        for (String left = Calls.answer(marsh, "undo"); !left.startsWith("throws"); left = Calls.answer(marsh, "undo")) {
-            all.append("\nundone to ").append(left).append(' ').append(state(marsh));
-        }
-        for (int slot = 0; slot < 2; slot++) {
-            all.append("\nslot ").append(Calls.answer(marsh, "restoreSnapshot", slot)).append(' ').append(state(marsh));
-        }
-        if (withInput) {
-            all.append("\nbuffer ").append(length(marsh)).append(Calls.answer(marsh, "load")).append(Calls.answer(marsh, "errorOffset")).append(state(marsh));
-        }
-        return all.toString();
-    }
-
-    private static int length(FalseLightMarsh marsh) {
-        int length = 800;
-        while (Calls.answer(marsh, "shorten", length).startsWith("throws")) {
-            length--;
-        }
-        return length;
     }
 }

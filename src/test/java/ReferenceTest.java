@@ -22,6 +22,7 @@ final class ReferenceTest {
     private final FalseLightMarsh marsh = new FalseLightMarsh();
     private final ReferenceMarsh reference = new ReferenceMarsh();
     private final StringBuilder calls = new StringBuilder();
+    private int made;
     private boolean differs;
 
     private ReferenceTest(int seed) {
@@ -52,9 +53,9 @@ final class ReferenceTest {
     }
 
     private void run(int seed) {
-        for (int n = 0; n < CALLS && !differs; n++) {
+        while (made < CALLS && !differs) {
             int kind = random.nextInt(1000);
-            if (n == 0 || kind < 4) {
+            if (made == 0 || kind < 4) {
                 loadText();
             } else if (kind < 450) {
                 call(changes.get(random.nextInt(changes.size())));
@@ -177,7 +178,12 @@ final class ReferenceTest {
         return spoilt.length() > 780 ? spoilt.substring(0, 780) : spoilt.toString();
     }
 
+    // What later calls answer is free.
     private void call(String name, Object... values) {
+        if (made == CALLS) {
+            return;
+        }
+        made++;
         String got = Calls.answer(marsh, name, values);
         String due = Calls.answer(reference, name, values);
         calls.append(name).append(java.util.Arrays.toString(values)).append(" = ").append(got).append('\n');
