@@ -116,6 +116,10 @@ final class TextBoundaryTest {
             }
             if (!known && one != ' ' && one != '\n') {
                 wrong("byte " + one + " within a word", "|mar" + (char) one + "sh 4 3 clear 7;");
+                wrong("byte " + one + " behind a word", "marsh|" + (char) one + " 4 3 clear 7;");
+                wrong("byte " + one + " behind the cells", HEAD + "row fffh|" + (char) one + ";");
+                wrong("byte " + one + " before a number", "marsh |" + (char) one + "4 3 clear 7;");
+                wrong("byte " + one + " behind a semicolon", HEAD + "|" + (char) one + ROWS);
                 wrong("byte " + one + " behind a number", "marsh 4|" + (char) one + " 3 clear 7;");
             }
         }
