@@ -49,6 +49,10 @@ final class ChangeTest {
         check.state("P57 a hut", () -> marsh.layPlank(3, 0, 1));
         check.same("P57 nothing changed", Marsh.state(marsh), before);
         check.state("P57 no change to undo", marsh::undo);
+        FalseLightMarsh first = new FalseLightMarsh();
+        check.state("P57 firm ground of a new object", () -> first.layPlank(0, 0, 1));
+        check.state("P57 the hut of a new object", () -> first.layPlank(3, 0, 1));
+        check.same("P57 water of a new object", first.layPlank(1, 1, 1), 2);
     }
 
     private static void setsClearness() {

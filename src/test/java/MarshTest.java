@@ -9,6 +9,9 @@ final class MarshTest {
         tellsItsCells();
         findsPaths();
         findsHuts();
+        reachesAllCorners();
+        staysInTheMarsh();
+        findsHutsAfterChanges();
         tellsTimeAndSight();
         check.end();
     }
@@ -108,6 +111,57 @@ final class MarshTest {
         check.same("P15 from water on to ground", marsh.stepsToHut(2, 2), 3);
         FalseLightMarsh bare = Marsh.of("marsh 2 2 clear 0;row ff;row ff;");
         check.element("P15 no hut", () -> bare.stepsToHut(1, 1));
+    }
+
+    /** Marshes of every size: the first cell is a hut, the last row is all planks. */
+    private static void reachesAllCorners() {
+        for (int width = 2; width <= 12; width++) {
+            for (int height = 2; height <= 12; height++) {
+                String size = width + " by " + height;
+                FalseLightMarsh marsh = Marsh.of("marsh " + width + " " + height + " clear 0;row h" + "f".repeat(width - 1) + ";"
+                        + ("row " + "f".repeat(width) + ";").repeat(height - 2) + "row " + "p".repeat(width) + ";");
+                int steps = width + height - 2;
+                check.same("P13 the last row of " + size, marsh.plankCount(), width);
+                check.same("P14 from corner to corner of " + size, marsh.pathLength(0, 0, width - 1, height - 1), steps);
+                check.same("P14 between the others of " + size, marsh.pathLength(width - 1, 0, 0, height - 1), steps);
+                check.same("P15 from the last cell of " + size, marsh.stepsToHut(width - 1, height - 1), steps);
+                marsh.addTraveller(width - 1, height - 1);
+                check.same("P60 from corner to corner of " + size, marsh.setTarget(0, marsh.addLight(0, 0, 0, true)), steps);
+                check.same("P47 as many ticks as steps in " + size, marsh.ticksUntilDone(0), steps);
+            }
+        }
+    }
+
+    /** What lay beyond the edges in a greater marsh before is no way round. */
+    private static void staysInTheMarsh() {
+        FalseLightMarsh marsh = Marsh.of("marsh 12 12 clear 0;row hhhhhhhhhhhh;" + "row pppppppppppp;".repeat(11));
+        Marsh.append(marsh, "marsh 3 5 clear 0;" + "row fwp;".repeat(5));
+        marsh.load();
+        check.same("P13 no plank of the earlier marsh", marsh.plankCount(), 5);
+        check.element("P14 no path below the last row", () -> marsh.pathLength(0, 4, 2, 4));
+        check.element("P15 no hut of the earlier marsh", () -> marsh.stepsToHut(2, 0));
+        Marsh.append(marsh, "marsh 5 3 clear 0;row fffff;row wwwww;row ppppp;");
+        marsh.load();
+        check.same("P13 no plank of the earlier marshes", marsh.plankCount(), 5);
+        check.element("P14 no path beyond the last column", () -> marsh.pathLength(4, 0, 4, 2));
+        check.element("P15 no hut of the earlier marshes", () -> marsh.stepsToHut(4, 0));
+    }
+
+    private static void findsHutsAfterChanges() {
+        FalseLightMarsh marsh = new FalseLightMarsh();
+        check.same("P15 of a new object", marsh.stepsToHut(0, 2), 5);
+        marsh.layPlank(1, 1, 1);
+        marsh.layPlank(2, 1, 9);
+        check.same("P15 water became a plank: one way of many", marsh.stepsToHut(0, 2), 5);
+        FalseLightMarsh round = Marsh.of("marsh 4 2 clear 9;row fwwh;row ffff;light 3 0 0 true;traveller 0 0;");
+        check.same("P15 round the water", round.stepsToHut(0, 0), 5);
+        round.layPlank(1, 0, 1);
+        round.layPlank(2, 0, 1);
+        check.same("P15 over the planks", round.stepsToHut(0, 0), 3);
+        round.tick(3);
+        check.same("P15 the planks broke", round.stepsToHut(0, 0), 5);
+        round.undo();
+        check.same("P15 before they broke", round.stepsToHut(0, 0), 3);
     }
 
     private static void tellsTimeAndSight() {

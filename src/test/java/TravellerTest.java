@@ -14,6 +14,7 @@ final class TravellerTest {
         findsTheNearestLight();
         setsTargets();
         refusesTargets();
+        answersWithoutAnyText();
         check.end();
     }
 
@@ -200,6 +201,28 @@ final class TravellerTest {
         check.same("P60 a light that was passed", marsh.setTarget(1, 2), 0);
         check.same("P60 is the target", marsh.target(1), 2);
         check.yes("P60 and still counts as passed", marsh.hasPassed(1, 2));
+    }
+
+    /** An object that has read no text but its first one: all that is asked about was added. */
+    private static void answersWithoutAnyText() {
+        FalseLightMarsh marsh = new FalseLightMarsh();
+        marsh.addTraveller(3, 1);
+        marsh.addTraveller(0, 2);
+        marsh.addLight(3, 0, 3, true);
+        marsh.addLight(0, 1, 9, false);
+        marsh.setClearness(1);
+        check.yes("P40 distance 1, sight 1, brightness 3", marsh.sees(0, 0));
+        check.no("P40 distance 5, sight 1, brightness 3", marsh.sees(1, 0));
+        check.yes("P40 distance 3, sight 1, brightness 9", marsh.sees(0, 1));
+        check.same("P41 the nearest of two", marsh.nearestLight(0), 0);
+        check.same("P41 the nearest of one", marsh.nearestLight(1), 1);
+        check.same("P52 one arrives", marsh.tick(1), 1);
+        check.same("P45 one of two", marsh.arrivedShare(), 0.5f);
+        check.same("P46 a step each", marsh.meanSteps(), 1.0);
+        check.same("P44 the other has sunk", marsh.sunkCount(), 1);
+        marsh.addTraveller(0, 0);
+        check.same("P45 one of three", marsh.arrivedShare(), 1.0f / 3.0f);
+        check.same("P46 two steps of three", marsh.meanSteps(), 2.0 / 3.0);
     }
 
     private static void refusesTargets() {
